@@ -1234,9 +1234,7 @@ public final class SugarKitchen {
             }
             for (int state = 1; state < states; state++) {
                 countOn();
-                for (int before = 0; before < KINDS; before++) {
-                    least[state * KINDS + before] = leastBehind(state, before, nutsLast);
-                }
+                findLeastOf(state, nutsLast);
             }
         }
 
@@ -1249,15 +1247,20 @@ public final class SugarKitchen {
             waiting[kind]++;
         }
 
-        private int leastBehind(int state, int before, boolean nutsLast) {
-            int best = Integer.MAX_VALUE;
+        private void findLeastOf(int state, boolean nutsLast) {
+            int start = state * KINDS;
+            for (int before = 0; before < KINDS; before++) {
+                least[start + before] = Integer.MAX_VALUE;
+            }
             for (int kind = 0; kind < KINDS; kind++) {
                 if (mayCome(kind, nutsLast)) {
-                    int minutes = washing[before * KINDS + kind] + leastOnce(state, kind);
-                    best = Math.min(best, minutes);
+                    int rest = leastOnce(state, kind);
+                    for (int before = 0; before < KINDS; before++) {
+                        int minutes = washing[before * KINDS + kind] + rest;
+                        least[start + before] = Math.min(least[start + before], minutes);
+                    }
                 }
             }
-            return best;
         }
 
         /** The least minutes once a batch of a KIND that waited has come. */

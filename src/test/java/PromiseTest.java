@@ -534,7 +534,26 @@ public final class PromiseTest {
 
     private static void heat() {
         SugarKitchen k = kitchen();
+        heatAll(k, "as at first", new int[][] {{321, 0, 0}});
+        heatAsTold(k);
+        k.temper(451, 271, 311, 321, 291, 3);
         k.temper(450, 270, 310, 320, 290, 2);
+        heatAsTold(k);
+        k.temper(450, 270, 310, 320, 290, 1);
+        heatAll(k, "N is 1", new int[][] {{450, 1, 0}, {270, 2, 0}, {450, 1, 0}, {270, 2, 0},
+            {310, 3, 0}, {450, 1, 0}});
+        is("16 no COAT", NONE, k.heat(0, 450));
+        is("16 no such batch", NONE, k.heat(3, 450));
+        is("16 no such batch", NONE, k.heat(-1, 450));
+        int raw = k.batch(5);
+        k.put(raw, 0, 10);
+        is("16 not cooked", NONE, k.heat(raw, 450));
+        k.cook(raw, 1);
+        is("16 cooked, not GOOD", 1, k.heat(raw, 450));
+    }
+
+    /** By the TEMPER of a new object, or the same one told, from PHASE 0 on. */
+    private static void heatAsTold(SugarKitchen k) {
         heatAll(k, "up", new int[][] {{449, 0, 0}, {450, 0, 1}, {449, 0, 0}, {451, 0, 1},
             {9999, 1, 0}});
         heatAll(k, "down", new int[][] {{270, 1, 1}, {271, 1, 0}, {600, 1, 0}, {270, 1, 1},
@@ -549,19 +568,6 @@ public final class PromiseTest {
         heatAll(k, "in PHASE 2", new int[][] {{1, 1, 1}, {1, 2, 0}, {310, 2, 1}, {321, 0, 0}});
         heatAll(k, "in PHASE 2 counts", new int[][] {{450, 0, 1}, {450, 1, 0}, {1, 1, 1},
             {1, 2, 0}, {310, 2, 1}, {450, 0, 1}});
-        k.temper(450, 270, 310, 320, 290, 1);
-        heatAll(k, "N is 1", new int[][] {{450, 1, 0}, {270, 2, 0}, {450, 1, 0}, {270, 2, 0},
-            {310, 3, 0}, {450, 1, 0}});
-        is("16 no COAT", NONE, k.heat(0, 450));
-        is("16 no such batch", NONE, k.heat(3, 450));
-        is("16 no such batch", NONE, k.heat(-1, 450));
-        int raw = k.batch(5);
-        k.put(raw, 0, 10);
-        is("16 not cooked", NONE, k.heat(raw, 450));
-        k.cook(raw, 1);
-        is("16 cooked, not GOOD", 1, k.heat(raw, 450));
-        SugarKitchen fresh = kitchen();
-        is("16 as at first", 3, fresh.batchOf(2, 9));
     }
 
     private static void cut() {
