@@ -12,7 +12,6 @@ public final class HardPackTest {
     }
 
     public static void main(String[] args) {
-        int right = 0;
         Due all = new Due("HardPackTest");
         for (int seed = 1; seed <= 60; seed++) {
             HardPackTest test = new HardPackTest(seed);
