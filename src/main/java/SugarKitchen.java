@@ -181,18 +181,8 @@ public final class SugarKitchen {
         if (!inOrder || !within(n, 1, 20)) {
             return false;
         }
-        tempering.melted = d1;
-        tempering.cooled = d2;
-        tempering.warmed = d3;
-        tempering.tooWarm = d4;
-        tempering.leastWarm = d5;
-        tempering.ticks = n;
-        for (int i = 0; i < batchCount; i++) {
-            Batch of = findBatch(i);
-            if (of != null) {
-                of.phase = 0;
-                of.count = 0;
-            }
+        if (tempering.change(d1, d2, d3, d4, d5, n)) {
+            restartCoats();
         }
         return true;
     }
@@ -458,6 +448,16 @@ public final class SugarKitchen {
 
     private Box findBox(int number) {
         return within(number, 0, boxCount - 1) ? boxes[number] : null;
+    }
+
+    private void restartCoats() {
+        for (int i = 0; i < batchCount; i++) {
+            Batch of = findBatch(i);
+            if (of != null) {
+                of.phase = 0;
+                of.count = 0;
+            }
+        }
     }
 
     private void liftFromTray(Piece piece) {
@@ -778,12 +778,28 @@ public final class SugarKitchen {
 
     /** The degrees D1 to D5 and N of the TEMPER. */
     static final class Tempering {
-        int melted = 450;
-        int cooled = 270;
-        int warmed = 310;
-        int tooWarm = 320;
-        int leastWarm = 290;
-        int ticks = 2;
+        private int melted = 450;
+        private int cooled = 270;
+        private int warmed = 310;
+        private int tooWarm = 320;
+        private int leastWarm = 290;
+        private int ticks = 2;
+
+        /** Whether it is another TEMPER: only such a one sets the COATS back. */
+        boolean change(int d1, int d2, int d3, int d4, int d5, int n) {
+            boolean likeDegrees = d1 == melted && d2 == cooled && d3 == warmed && d4 == tooWarm
+                    && d5 == leastWarm;
+            if (likeDegrees && n == ticks) {
+                return false;
+            }
+            melted = d1;
+            cooled = d2;
+            warmed = d3;
+            tooWarm = d4;
+            leastWarm = d5;
+            ticks = n;
+            return true;
+        }
 
         void heatOneTick(Batch coat, int degree) {
             if (isSpoilt(coat.phase, degree)) {

@@ -223,7 +223,11 @@ final class PlainKitchen {
         if (d2 >= d3 || d3 > d4 || d4 >= d1 || d5 > d3 || n < 1 || n > 20) {
             return false;
         }
-        temper = new int[] {d1, d2, d3, d4, d5, n};
+        int[] told = {d1, d2, d3, d4, d5, n};
+        if (Arrays.equals(told, temper)) {
+            return true;
+        }
+        temper = told;
         for (B b : batches) {
             b.phase = 0;
             b.count = 0;

@@ -509,6 +509,22 @@ public final class PromiseTest {
         is("15 N below", false, k.temper(450, 270, 310, 320, 290, 0));
         is("15 N above", false, k.temper(450, 270, 310, 320, 290, 21));
         is("15 nothing changed", 3, k.batchOf(2, 9));
+        is("15 the same TEMPER", true, k.temper(450, 270, 310, 320, 290, 2));
+        is("15 is no other one", 3, k.batchOf(2, 9));
+        int[] same = {450, 270, 310, 320, 290, 2};
+        for (int i = 0; i < 6; i++) {
+            int[] d = same.clone();
+            d[i]++;
+            is("15 another one", true, k.temper(d[0], d[1], d[2], d[3], d[4], d[5]));
+            is("15 another in " + i + ": PHASE 0", 0, k.batchOf(2, 9));
+            k.temper(450, 270, 310, 320, 290, 2);
+            intoTemper(k, 2);
+            is("15 in TEMPER anew", 3, k.batchOf(2, 9));
+        }
+        k.heat(2, 450);
+        is("15 a count", 1, k.batchOf(2, 10));
+        is("15 another one", true, k.temper(449, 270, 310, 320, 290, 2));
+        is("15 count 0", 0, k.batchOf(2, 10));
         is("15 edges", true, k.temper(321, 309, 310, 310, 310, 20));
         is("15 PHASE 0", 0, k.batchOf(2, 9));
         is("15 D3 as D4", true, k.temper(311, 309, 310, 310, 310, 1));

@@ -177,6 +177,11 @@ public final class RandomRunsTest {
                 heatSome();
                 return 4;
             case 13:
+                if (random.nextInt(3) == 0) {
+                    int[] t = plain.temper;
+                    temper(t[0], t[1], t[2], t[3], t[4], t[5]);
+                    return 1;
+                }
                 temper(between(440, 455), between(260, 290), between(285, 315), between(300, 330),
                         between(280, 300), between(0, 4));
                 return 1;
