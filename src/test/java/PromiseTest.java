@@ -1,7 +1,7 @@
 /** Each promise of the document by itself: ordinary inputs, named edges, wrong inputs. */
 public final class PromiseTest {
     private static final int NONE = SugarKitchen.NONE;
-    private static final int NO_TOP = -1000001;
+    private static final int NO_TOP = Kitchens.NO_TOP;
     private static final Due DUE = new Due("PromiseTest");
 
     public static void main(String[] args) {
@@ -48,62 +48,6 @@ public final class PromiseTest {
 
     private static void is(String what, boolean want, boolean got) {
         DUE.is(what, want, got);
-    }
-
-    // ---- kitchens to begin with
-
-    private static int bits(float f) {
-        return Float.floatToRawIntBits(f);
-    }
-
-    /** A batch of a KIND with a MASS of lot 0 and a row of degrees (and all of it stirred). */
-    private static int raw(SugarKitchen k, int kind, int mass, boolean stirred, float... degrees) {
-        int b = k.batch(kind);
-        k.put(b, 0, mass);
-        k.row(b, 0, degrees.length);
-        k.row(b, 1, degrees.length);
-        for (int i = 0; i < degrees.length; i++) {
-            k.tick(b, i, bits(degrees[i]));
-            k.stir(b, i, stirred);
-        }
-        return b;
-    }
-
-    private static int good(SugarKitchen k, int kind, int lot, int mass) {
-        int b = k.batch(kind);
-        k.put(b, lot, mass);
-        k.cook(b, 1);
-        k.vouch(b);
-        return b;
-    }
-
-    /** Lots 0, 1, 2 with WARNINGS 1, 6, 12; batches: 0 a CENTRE, 1 a NUT, 2 a COAT in TEMPER. */
-    private static SugarKitchen kitchen() {
-        SugarKitchen k = new SugarKitchen();
-        k.lot(1000000, 1);
-        k.lot(1000000, 6);
-        k.lot(1000000, 12);
-        good(k, 3, 0, 100000);
-        good(k, 4, 1, 100000);
-        good(k, 5, 2, 100000);
-        intoTemper(k, 2);
-        return k;
-    }
-
-    private static void intoTemper(SugarKitchen k, int coat) {
-        for (int degree : new int[] {450, 450, 270, 270, 310, 310}) {
-            k.heat(coat, degree);
-        }
-    }
-
-    /** Pieces of these weights of the CENTRE, on TRAY 0 from place 0 on. */
-    private static SugarKitchen laid(int... weights) {
-        SugarKitchen k = kitchen();
-        for (int i = 0; i < weights.length; i++) {
-            k.cut(0, weights[i], 1);
-            k.place(i, i / 24, i % 24);
-        }
-        return k;
     }
 
     // ---- the promises
@@ -185,10 +129,10 @@ public final class PromiseTest {
         is("5 too short", false, k.row(0, 0, -2));
         is("5 missing at first", false, k.tick(0, 0, 0));
         is("5 of 60", true, k.row(0, 0, 60));
-        is("5 the last", true, k.tick(0, 59, bits(50f)));
+        is("5 the last", true, k.tick(0, 59, Kitchens.bits(50f)));
         is("5 not one more", false, k.tick(0, 60, 0));
         is("5 a false call changes nothing", false, k.row(0, 0, 61));
-        is("5 it is there", true, k.tick(0, 59, bits(50f)));
+        is("5 it is there", true, k.tick(0, 59, Kitchens.bits(50f)));
         is("5 missing", true, k.row(0, 0, NONE));
         is("5 none there", false, k.tick(0, 0, 0));
         is("5 of none", true, k.row(0, 0, 0));
@@ -198,10 +142,10 @@ public final class PromiseTest {
         is("5 stirring's last", true, k.stir(0, 2, true));
         is("5 not one more", false, k.stir(0, 3, true));
         k.row(0, 0, 3);
-        k.tick(0, 0, bits(90f));
-        k.tick(0, 2, bits(80f));
+        k.tick(0, 0, Kitchens.bits(90f));
+        k.tick(0, 2, Kitchens.bits(80f));
         k.row(0, 0, 3);
-        k.tick(0, 1, bits(-5f));
+        k.tick(0, 1, Kitchens.bits(-5f));
         k.row(0, 1, 3);
         k.put(0, 0, 10);
         k.grain(-10000, 10000);
@@ -234,15 +178,15 @@ public final class PromiseTest {
         is("6 below", false, k.tick(0, -1, 0));
         is("6 above", false, k.tick(0, 2, 0));
         is("6 no such batch", false, k.tick(1, 0, 0));
-        is("6 there", true, k.tick(0, 1, bits(7f)));
-        is("6 again", true, k.tick(0, 1, bits(6f)));
+        is("6 there", true, k.tick(0, 1, Kitchens.bits(7f)));
+        is("6 again", true, k.tick(0, 1, Kitchens.bits(6f)));
         k.cook(0, 2);
         is("6 the last told", 60, k.batchOf(0, 5));
         is("6 cooked", false, k.tick(0, 0, 0));
         for (float f : new float[] {0f, -0f, 0.09f, 0.1f, 0.0999999f, 99.95f, 99.94999f, 117.77f,
             1e-40f, 1e-30f, 2.1474836e8f, 2.1474837e8f, 2.147483e8f, 2e9f, 3e9f, 3.4e38f, -0.19f,
             -99.95f, -3e9f, 16777215f, 1677721.6f, 838860.75f, 0.3f, 1.1f, 4.35f}) {
-            is("6 tenfold " + f, (int) (10f * f), topOf(bits(f)));
+            is("6 tenfold " + f, (int) (10f * f), topOf(Kitchens.bits(f)));
         }
         for (int i = 0, b = 0x3a000000; i < 5000; i++, b += 0x8517) {
             is("6 bits " + b, (int) (10f * Float.intBitsToFloat(b)), topOf(b));
@@ -260,7 +204,7 @@ public final class PromiseTest {
         SugarKitchen k = new SugarKitchen();
         k.lot(100, 0);
         k.grain(0, 1000);
-        int b = raw(k, 1, 10, false, 90f, 80f);
+        int b = Kitchens.raw(k, 1, 10, false, 90f, 80f);
         is("7 below", false, k.stir(b, -1, true));
         is("7 above", false, k.stir(b, 2, true));
         is("7 no such batch", false, k.stir(b + 1, 0, true));
@@ -269,14 +213,14 @@ public final class PromiseTest {
         k.cook(b, 2);
         is("7 no it was", 0, k.batchOf(b, 6));
         is("7 cooked", false, k.stir(b, 1, true));
-        int other = raw(k, 1, 10, false, 90f, 80f);
+        int other = Kitchens.raw(k, 1, 10, false, 90f, 80f);
         k.stir(other, 1, true);
         k.cook(other, 2);
         is("7 yes it was", 1, k.batchOf(other, 6));
     }
 
     private static int lossAt(SugarKitchen k, float degree) {
-        int b = raw(k, 0, 1000, false, degree);
+        int b = Kitchens.raw(k, 0, 1000, false, degree);
         k.cook(b, 1);
         return k.batchOf(b, 4);
     }
@@ -312,7 +256,7 @@ public final class PromiseTest {
     }
 
     private static int grainedAt(SugarKitchen k, boolean stirred, float... degrees) {
-        int b = raw(k, 1, 10, stirred, degrees);
+        int b = Kitchens.raw(k, 1, 10, stirred, degrees);
         k.cook(b, degrees.length);
         return k.batchOf(b, 7);
     }
@@ -337,12 +281,12 @@ public final class PromiseTest {
         is("9 none is within", NONE, grainedAt(k, true, 90f, 65f));
         is("9 any", true, k.grain(Integer.MIN_VALUE, Integer.MAX_VALUE));
         is("9 all are within", 1, grainedAt(k, true, 90f, -3e38f));
-        int b = raw(k, 1, 10, true, 90f, 65f, 65f);
+        int b = Kitchens.raw(k, 1, 10, true, 90f, 65f, 65f);
         k.row(b, 1, 1);
         k.stir(b, 0, true);
         k.cook(b, 3);
         is("9 stirring isn't there", 0, k.batchOf(b, 6));
-        int c = raw(k, 1, 10, true, 90f, 65f);
+        int c = Kitchens.raw(k, 1, 10, true, 90f, 65f);
         k.cook(c, 1);
         is("9 only ticks that were cooked", 0, k.batchOf(c, 6));
     }
@@ -351,8 +295,8 @@ public final class PromiseTest {
         SugarKitchen k = new SugarKitchen();
         k.lot(100000, 0);
         k.table(0, 900);
-        int b = raw(k, 0, 1000, false, 1f);
-        int c = raw(k, 5, 1000, false, 1f);
+        int b = Kitchens.raw(k, 0, 1000, false, 1f);
+        int c = Kitchens.raw(k, 5, 1000, false, 1f);
         k.cook(b, 1);
         k.cook(c, 1);
         is("10 at first to 900", 0, k.why(b));
@@ -375,24 +319,24 @@ public final class PromiseTest {
             k.lot(1000000, 0);
         }
         k.table(1000, 333);
-        int b = raw(k, 0, 1000, false, 99f, 100f, 50f);
+        int b = Kitchens.raw(k, 0, 1000, false, 99f, 100f, 50f);
         is("11 no such batch", NONE, k.cook(b + 1, 1));
         is("11 no ticks", NONE, k.cook(b, 0));
         is("11 too many ticks", NONE, k.cook(b, 61));
         is("11 not cooked", 1, k.why(b));
         is("11 cooked", 667, k.cook(b, 3));
         is("11 again", NONE, k.cook(b, 3));
-        int little = raw(k, 0, 3, false, 100f);
+        int little = Kitchens.raw(k, 0, 3, false, 100f);
         is("11 cut", 3, k.cook(little, 1));
         int empty = k.batch(0);
         is("11 no MASS", NONE, k.cook(empty, 1));
         is("11 not cooked", 1, k.why(empty));
-        int part = raw(k, 0, 1000, false, 99f, 100f);
+        int part = Kitchens.raw(k, 0, 1000, false, 99f, 100f);
         is("11 ticks not told are not cooked", 1000, k.cook(part, 1));
-        int doubtful = raw(k, 0, 1000, false, 99f, 100f);
+        int doubtful = Kitchens.raw(k, 0, 1000, false, 99f, 100f);
         is("11 what is there is cooked", 667, k.cook(doubtful, 60));
         is("11 and it is DOUBTFUL", 2, k.why(doubtful));
-        int numbers = raw(k, 0, 1000, false, Float.NaN, 100f, Float.NaN);
+        int numbers = Kitchens.raw(k, 0, 1000, false, Float.NaN, 100f, Float.NaN);
         is("11 no number is not read", 667, k.cook(numbers, 3));
         is("11 nor DOUBTFUL", 0, k.why(numbers));
         int much = k.batch(0);
@@ -400,10 +344,10 @@ public final class PromiseTest {
             k.put(much, i, 1000000);
         }
         k.row(much, 0, 1);
-        k.tick(much, 0, bits(100f));
+        k.tick(much, 0, Kitchens.bits(100f));
         is("11 much", 39000000 - 12987000, k.cook(much, 1));
         is("11 much lost", 12987000, k.batchOf(much, 3));
-        int later = raw(k, 0, 1000, false, 100f);
+        int later = Kitchens.raw(k, 0, 1000, false, 100f);
         k.table(1000 + 1, 500);
         is("11 by the TABLE of now", 667, k.cook(later, 1));
     }
@@ -433,14 +377,14 @@ public final class PromiseTest {
         int[] wantPlain = {0, 5, 0, 5, 5, 0};
         int[] wantGrained = {0, 0, 6, 0, 0, 0};
         for (int kind = 0; kind < 6; kind++) {
-            int b = raw(k, kind, 10, false, 90f, 80f);
+            int b = Kitchens.raw(k, kind, 10, false, 90f, 80f);
             is("13 not cooked", 1, k.why(b));
             k.cook(b, 2);
             is("13 not GRAINED, kind " + kind, wantPlain[kind], k.why(b));
-            int g = raw(k, kind, 10, true, 90f, 80f);
+            int g = Kitchens.raw(k, kind, 10, true, 90f, 80f);
             k.cook(g, 2);
             is("13 GRAINED, kind " + kind, wantGrained[kind], k.why(g));
-            int d = raw(k, kind, 10, true, 90f, 80f);
+            int d = Kitchens.raw(k, kind, 10, true, 90f, 80f);
             k.cook(d, 3);
             is("13 DOUBTFUL, kind " + kind, 2, k.why(d));
             k.bounds(kind, 1, 5);
@@ -459,7 +403,7 @@ public final class PromiseTest {
         k.lot(100000, 0);
         k.table(0, 100);
         k.grain(700, 900);
-        int b = raw(k, 3, 1000, true, 90f, 80f, 95f, 60f, 75f, 74f);
+        int b = Kitchens.raw(k, 3, 1000, true, 90f, 80f, 95f, 60f, 75f, 74f);
         int[] raw = {3, 1000, 1000, 0, 0, NO_TOP, 0, NONE, 0, 0, 0, 0, 0};
         for (int i = 0; i < raw.length; i++) {
             is("14 of a raw one " + i, raw[i], k.batchOf(b, i));
@@ -474,21 +418,21 @@ public final class PromiseTest {
         is("14 below", NONE, k.batchOf(b, -1));
         is("14 above", NONE, k.batchOf(b, 13));
         is("14 no such batch", NONE, k.batchOf(b + 1, 0));
-        int coat = raw(k, 5, 1000, false, Float.NaN);
+        int coat = Kitchens.raw(k, 5, 1000, false, Float.NaN);
         k.cook(coat, 2);
         k.vouch(coat);
-        intoTemper(k, coat);
+        Kitchens.intoTemper(k, coat);
         k.dip(0, coat, 30);
         k.dip(1, coat, 20);
         int[] dipping = {5, 950, 1000, 0, 0, NO_TOP, 0, 1, 1, 3, 0, 0, 50};
         for (int i = 0; i < dipping.length; i++) {
             is("14 of a COAT " + i, dipping[i], k.batchOf(coat, i));
         }
-        int both = raw(k, 1, 10, true, 90f, 80f);
+        int both = Kitchens.raw(k, 1, 10, true, 90f, 80f);
         k.cook(both, 5);
         is("14 GRAINED", 1, k.batchOf(both, 6));
         is("14 which was not there", 2, k.batchOf(both, 7));
-        int missing = raw(k, 1, 10, true, 90f);
+        int missing = Kitchens.raw(k, 1, 10, true, 90f);
         k.row(missing, 0, NONE);
         k.cook(missing, 5);
         is("14 a MISSING row", 0, k.batchOf(missing, 7));
@@ -500,7 +444,7 @@ public final class PromiseTest {
     }
 
     private static void temper() {
-        SugarKitchen k = kitchen();
+        SugarKitchen k = Kitchens.kitchen();
         is("15 in TEMPER", 3, k.batchOf(2, 9));
         is("15 D2 not below D3", false, k.temper(450, 310, 310, 320, 290, 2));
         is("15 D3 above D4", false, k.temper(450, 270, 321, 320, 290, 2));
@@ -518,7 +462,7 @@ public final class PromiseTest {
             is("15 another one", true, k.temper(d[0], d[1], d[2], d[3], d[4], d[5]));
             is("15 another in " + i + ": PHASE 0", 0, k.batchOf(2, 9));
             k.temper(450, 270, 310, 320, 290, 2);
-            intoTemper(k, 2);
+            Kitchens.intoTemper(k, 2);
             is("15 in TEMPER anew", 3, k.batchOf(2, 9));
         }
         k.heat(2, 450);
@@ -549,7 +493,7 @@ public final class PromiseTest {
     }
 
     private static void heat() {
-        SugarKitchen k = kitchen();
+        SugarKitchen k = Kitchens.kitchen();
         heatAll(k, "as at first", new int[][] {{321, 0, 0}});
         heatAsTold(k);
         k.temper(451, 271, 311, 321, 291, 3);
@@ -577,9 +521,9 @@ public final class PromiseTest {
         heatAll(k, "up again", new int[][] {{310, 2, 1}, {309, 2, 0}, {200, 2, 0}, {320, 2, 1},
             {310, 3, 0}});
         heatAll(k, "in TEMPER", new int[][] {{320, 3, 0}, {290, 3, 0}, {289, 0, 0}});
-        intoTemper(k, 2);
+        Kitchens.intoTemper(k, 2);
         heatAll(k, "too hot", new int[][] {{321, 0, 0}});
-        intoTemper(k, 2);
+        Kitchens.intoTemper(k, 2);
         heatAll(k, "far too hot counts", new int[][] {{450, 0, 1}, {450, 1, 0}});
         heatAll(k, "in PHASE 2", new int[][] {{1, 1, 1}, {1, 2, 0}, {310, 2, 1}, {321, 0, 0}});
         heatAll(k, "in PHASE 2 counts", new int[][] {{450, 0, 1}, {450, 1, 0}, {1, 1, 1},
@@ -587,7 +531,7 @@ public final class PromiseTest {
     }
 
     private static void cut() {
-        SugarKitchen k = kitchen();
+        SugarKitchen k = Kitchens.kitchen();
         is("17 too light", NONE, k.cut(0, 9, 1));
         is("17 too heavy", NONE, k.cut(0, 2001, 1));
         is("17 none", NONE, k.cut(0, 10, 0));
@@ -599,9 +543,9 @@ public final class PromiseTest {
         is("17 loose", 0, k.pieceOf(100, 5));
         is("17 its MASS", 99010, k.batchOf(0, 1));
         for (int kind : new int[] {0, 1, 2}) {
-            is("17 not cut", NONE, k.cut(good(k, kind, 0, 100), 10, 1));
+            is("17 not cut", NONE, k.cut(Kitchens.good(k, kind, 0, 100), 10, 1));
         }
-        int small = good(k, 3, 0, 35);
+        int small = Kitchens.good(k, 3, 0, 35);
         is("17 as far as MASS goes", 3, k.cut(small, 10, 9));
         is("17 no more", 0, k.cut(small, 10, 9));
         is("17 what is left", 5, k.batchOf(small, 1));
@@ -619,7 +563,7 @@ public final class PromiseTest {
         is("17 no numbers left", 0, k.cut(0, 10, 99));
         is("17 all 600", 600, k.about(2));
         is("17 the last one", 0, k.pieceOf(599, 0));
-        SugarKitchen other = kitchen();
+        SugarKitchen other = Kitchens.kitchen();
         for (int i = 0; i < 6; i++) {
             other.cut(0, 10, 99);
         }
@@ -627,7 +571,7 @@ public final class PromiseTest {
     }
 
     private static void dip() {
-        SugarKitchen k = laid(100, 100, 100, 100, 100);
+        SugarKitchen k = Kitchens.laid(100, 100, 100, 100, 100);
         is("18 no weight", NONE, k.dip(0, 2, 0));
         is("18 too much", NONE, k.dip(0, 2, 1001));
         is("18 no such piece", NONE, k.dip(5, 2, 10));
@@ -645,7 +589,7 @@ public final class PromiseTest {
         is("18 in a box", 2, k.pieceOf(0, 5));
         k.pack(1, 100, 0);
         is("18 undipped in a box", NONE, k.dip(2, 2, 5));
-        int small = good(k, 5, 0, 20);
+        int small = Kitchens.good(k, 5, 0, 20);
         is("18 more than it has", NONE, k.dip(3, small, 21));
         is("18 all it has", 0, k.dip(3, small, 20));
         int bad = k.batch(5);
@@ -653,14 +597,14 @@ public final class PromiseTest {
         is("18 not cooked", NONE, k.dip(4, bad, 10));
         k.cook(bad, 1);
         is("18 not GOOD", NONE, k.dip(4, bad, 10));
-        intoTemper(k, bad);
+        Kitchens.intoTemper(k, bad);
         is("18 not GOOD, in TEMPER", NONE, k.dip(4, bad, 10));
         k.vouch(bad);
         is("18 vouched for", 1, k.dip(4, bad, 10));
     }
 
     private static void place() {
-        SugarKitchen k = kitchen();
+        SugarKitchen k = Kitchens.kitchen();
         k.cut(0, 100, 3);
         is("19 no such tray", false, k.place(0, 6, 0));
         is("19 no such tray", false, k.place(0, -1, 0));
@@ -679,7 +623,7 @@ public final class PromiseTest {
     }
 
     private static void take() {
-        SugarKitchen k = laid(100, 100);
+        SugarKitchen k = Kitchens.laid(100, 100);
         is("20 on a TRAY", true, k.take(0));
         is("20 loose", false, k.take(0));
         is("20 its place is empty", NONE, k.at(0, 0));
@@ -691,7 +635,7 @@ public final class PromiseTest {
     }
 
     private static void allow() {
-        SugarKitchen k = laid(100, 100, 100);
+        SugarKitchen k = Kitchens.laid(100, 100, 100);
         k.dip(0, 2, 10);
         k.heat(2, 0);
         k.dip(1, 2, 10);
@@ -707,7 +651,7 @@ public final class PromiseTest {
     }
 
     private static void pieceOf() {
-        SugarKitchen k = kitchen();
+        SugarKitchen k = Kitchens.kitchen();
         k.cut(0, 100, 3);
         k.cut(1, 200, 1);
         k.dip(3, 2, 7);
@@ -731,7 +675,7 @@ public final class PromiseTest {
     }
 
     private static void at() {
-        SugarKitchen k = laid(100, 100);
+        SugarKitchen k = Kitchens.laid(100, 100);
         is("23 there", 1, k.at(0, 1));
         is("23 empty", NONE, k.at(0, 2));
         is("23 no such place", NONE, k.at(0, 24));
@@ -741,7 +685,7 @@ public final class PromiseTest {
     }
 
     private static void pack() {
-        SugarKitchen k = laid(100, 70, 50, 40);
+        SugarKitchen k = Kitchens.laid(100, 70, 50, 40);
         is("24 sorts below", NONE, k.pack(0, 100, 0));
         is("24 sorts above", NONE, k.pack(16, 100, 0));
         is("24 weight below", NONE, k.pack(15, 0, 500));
@@ -759,7 +703,7 @@ public final class PromiseTest {
         is("24 100 is the least", 100, k.boxOf(1, 1));
         is("24 its WEIGHT", 75, k.boxOf(1, 2));
         is("24 none can be", NONE, k.pack(15, 75, 500));
-        SugarKitchen heavy = kitchen();
+        SugarKitchen heavy = Kitchens.kitchen();
         heavy.cut(0, 2000, 5);
         for (int i = 0; i < 5; i++) {
             heavy.place(i, i, i);
@@ -779,7 +723,7 @@ public final class PromiseTest {
     }
 
     private static void packSorts() {
-        SugarKitchen k = kitchen();
+        SugarKitchen k = Kitchens.kitchen();
         k.cut(0, 100, 2);
         k.cut(1, 100, 2);
         for (int i = 0; i < 4; i++) {
@@ -796,7 +740,7 @@ public final class PromiseTest {
 
     /** The 41st piece is not in the CHOICE until one of the first 40 is packed. */
     private static void packWithinForty() {
-        SugarKitchen k = kitchen();
+        SugarKitchen k = Kitchens.kitchen();
         k.cut(0, 100, 40);
         k.cut(0, 55, 1);
         for (int i = 0; i < 41; i++) {
@@ -810,15 +754,15 @@ public final class PromiseTest {
     }
 
     private static void packLiesFirst() {
-        SugarKitchen k = laid(30, 50, 20, 40, 10, 60);
+        SugarKitchen k = Kitchens.laid(30, 50, 20, 40, 10, 60);
         is("24 of like sums", 0, k.pack(15, 70, 0));
         is("24 the first has the first piece", 0, k.boxOf(0, 100));
         is("24 and the next that may come", 3, k.boxOf(0, 101));
         is("24 two pieces", 2, k.boxOf(0, 0));
-        SugarKitchen m = laid(30, 30, 10, 40);
+        SugarKitchen m = Kitchens.laid(30, 30, 10, 40);
         m.pack(15, 70, 0);
         is("24 30 30 10", 3, m.boxOf(0, 0));
-        SugarKitchen back = kitchen();
+        SugarKitchen back = Kitchens.kitchen();
         back.cut(0, 100, 3);
         back.place(0, 5, 23);
         back.place(1, 2, 3);
@@ -828,7 +772,7 @@ public final class PromiseTest {
     }
 
     private static void would() {
-        SugarKitchen k = laid(100, 70, 50, 40);
+        SugarKitchen k = Kitchens.laid(100, 70, 50, 40);
         int[] want = {15, 2, 2, 2, 4};
         for (int what = 0; what < 5; what++) {
             is("25 what " + what, want[what], k.would(15, 75, 500, what));
@@ -848,26 +792,26 @@ public final class PromiseTest {
         for (int what = 0; what < 5; what++) {
             is("25 none can be " + what, wantNone[what], k.would(15, 261, 500, what));
         }
-        SugarKitchen m = laid(60, 50, 50, 40, 30, 30, 20, 20);
+        SugarKitchen m = Kitchens.laid(60, 50, 50, 40, 30, 30, 20, 20);
         is("25 FULL by least over", 3, m.would(15, 100, 0, 2));
-        SugarKitchen greedy = laid(60, 60, 40, 40, 20, 20);
+        SugarKitchen greedy = Kitchens.laid(60, 60, 40, 40, 20, 20);
         is("25 MOST", 2, greedy.would(15, 100, 20, 3));
-        SugarKitchen apart = laid(90, 20, 20, 20, 30, 40);
+        SugarKitchen apart = Kitchens.laid(90, 20, 20, 20, 30, 40);
         is("25 FULL takes 90 and 20, then 110", 2, apart.would(15, 110, 10, 2));
-        SugarKitchen trap = laid(60, 50, 30, 40, 70);
+        SugarKitchen trap = Kitchens.laid(60, 50, 30, 40, 70);
         is("25 FULL", 2, trap.would(15, 90, 40, 2));
         is("25 MOST", 2, trap.would(15, 90, 40, 3));
-        SugarKitchen better = laid(50, 30, 20, 90, 80, 60);
+        SugarKitchen better = Kitchens.laid(50, 30, 20, 90, 80, 60);
         is("25 FULL: 50 30 20 leaves 90 80 60", 2, better.would(15, 100, 50, 2));
         is("25 MOST is more", 3, better.would(15, 100, 50, 3));
-        SugarKitchen fifteen = kitchen();
+        SugarKitchen fifteen = Kitchens.kitchen();
         fifteen.cut(0, 100, 15);
         for (int i = 0; i < 15; i++) {
             fifteen.place(i, 0, i);
         }
         is("25 FULL of all", 15, fifteen.would(15, 100, 0, 2));
         is("25 MOST of the first 14", 14, fifteen.would(15, 100, 0, 3));
-        SugarKitchen many = kitchen();
+        SugarKitchen many = Kitchens.kitchen();
         many.cut(0, 10, 99);
         many.cut(0, 10, 45);
         for (int i = 0; i < 144; i++) {
@@ -881,7 +825,7 @@ public final class PromiseTest {
     }
 
     private static void wouldAndTwoHundredBoxes() {
-        SugarKitchen k = kitchen();
+        SugarKitchen k = Kitchens.kitchen();
         for (int i = 0; i < 3; i++) {
             k.cut(0, 10, 99);
         }
@@ -900,7 +844,7 @@ public final class PromiseTest {
     }
 
     private static void boxOf() {
-        SugarKitchen k = kitchen();
+        SugarKitchen k = Kitchens.kitchen();
         k.cut(0, 100, 2);
         k.cut(1, 100, 2);
         k.place(3, 0, 0);
@@ -924,7 +868,7 @@ public final class PromiseTest {
         }
         is("26 no such box", NONE, k.boxOf(1, 0));
         is("26 no such box", NONE, k.boxOf(-1, 0));
-        SugarKitchen plain = laid(100);
+        SugarKitchen plain = Kitchens.laid(100);
         plain.pack(1, 100, 0);
         is("26 one lot", 1, plain.boxOf(0, 4));
         is("26 its WARNINGS", 1, plain.boxOf(0, 3));
@@ -1054,7 +998,7 @@ public final class PromiseTest {
     }
 
     private static void recall() {
-        SugarKitchen k = kitchen();
+        SugarKitchen k = Kitchens.kitchen();
         k.put(k.batch(0), 0, 5);
         k.cut(0, 100, 2);
         k.cut(1, 100, 1);
@@ -1084,7 +1028,7 @@ public final class PromiseTest {
     }
 
     private static void about() {
-        SugarKitchen k = laid(100, 100, 100);
+        SugarKitchen k = Kitchens.laid(100, 100, 100);
         k.table(5, 5);
         k.queue(0);
         k.queue(2);
