@@ -1,3 +1,4 @@
+import java.util.Arrays;
 import java.util.function.Supplier;
 
 /**
@@ -18,6 +19,8 @@ public final class BoxEdgesTest {
         noneCanBe();
         atLeastWeightAtMostOver();
         leastSum();
+        sumsAtSixtyFours();
+        askedAgainWithLess();
         thoseThatLieFirst();
         fitPiecesOnly();
         theseSortsOnly();
@@ -29,7 +32,9 @@ public final class BoxEdgesTest {
         full();
         most();
         mostOfTheFirstFourteen();
-        boxOf();
+        boxOfOthers();
+        boxesWeights();
+        boxesWarnings();
         boxOfForty();
         DUE.end();
     }
@@ -126,18 +131,64 @@ public final class BoxEdgesTest {
         packs("8500", Kitchens.laid(2000, 2000, 2000, 1250, 1250), ask(15, 8000, 500), 0, 1, 2, 3,
                 4);
         is("24 8501", NONE, Kitchens.laid(2000, 2000, 2000, 1251, 1250).pack(15, 8000, 500));
-        is("24 8500 by 7999", NONE, Kitchens.laid(2000, 2000, 2000, 1250, 1250).pack(15, 7999, 500));
+        is("24 8500 by 7999", NONE,
+                Kitchens.laid(2000, 2000, 2000, 1250, 1250).pack(15, 7999, 500));
     }
 
     /** "of all such with the least sum" */
     private static void leastSum() {
         packs("one over rather than two", Kitchens.laid(102, 101), ask(15, 100, 2), 1);
         packs("none over rather than one", Kitchens.laid(101, 50, 50), ask(15, 100, 500), 1, 2);
-        packs("many rather than one over", Kitchens.laid(101, 10, 10, 10, 10, 10, 10, 10, 10, 10, 10),
-                ask(15, 100, 1), 1, 2, 3, 4, 5, 6, 7, 8, 9, 10);
+        packs("many rather than one over", Kitchens.laid(101, 10, 10, 10, 10, 10, 10, 10, 10, 10,
+                10), ask(15, 100, 1), 1, 2, 3, 4, 5, 6, 7, 8, 9, 10);
         packs("128 among like sums", Kitchens.laid(64, 63, 65, 128, 127), ask(15, 128, 500), 1, 2);
         packs("127 among like sums", Kitchens.laid(64, 63, 65, 128, 127), ask(15, 127, 500), 0, 1);
         packs("129 at least", Kitchens.laid(64, 63, 65, 128, 130), ask(15, 129, 500), 0, 2);
+    }
+
+    /** The sums are kept 64 by 64: weights and sums there and beside. */
+    private static void sumsAtSixtyFours() {
+        packs("65 and 63", Kitchens.laid(65, 63), ask(15, 128, 0), 0, 1);
+        packs("63 and 65", Kitchens.laid(63, 65), ask(15, 128, 0), 0, 1);
+        packs("64 and 64", Kitchens.laid(64, 64), ask(15, 128, 0), 0, 1);
+        packs("127 and 129", Kitchens.laid(127, 129), ask(15, 256, 0), 0, 1);
+        is("24 64 and 100 are never 128", NONE, Kitchens.laid(64, 100).pack(15, 120, 20));
+        is("24 128 and 100 are never 192", NONE, Kitchens.laid(128, 100).pack(15, 180, 20));
+        packs("one too heavy, 63 behind it", Kitchens.laid(101, 63, 37), ask(15, 100, 0), 1, 2);
+        packs("too heavy by 2, 62 behind it", Kitchens.laid(102, 62, 38), ask(15, 100, 0), 1, 2);
+        for (int weight : new int[] {63, 64, 65, 127, 128, 129, 1999, 2000}) {
+            for (int over : new int[] {0, 1, 50, 62}) {
+                packs(weight + " alone, " + over, Kitchens.laid(weight), ask(15, weight - over,
+                        over), 0);
+                is("24 " + weight + " by one less", NONE,
+                        Kitchens.laid(weight).pack(15, weight - over - 1, over));
+                is("24 " + weight + " by one more", NONE,
+                        Kitchens.laid(weight).pack(15, weight + 1, over));
+            }
+        }
+    }
+
+    /** What an earlier question left behind is in no later answer. */
+    private static void askedAgainWithLess() {
+        int[] weights = {100, 70, 50, 40, 90, 65, 33};
+        for (int left = weights.length; left >= 0; left--) {
+            SugarKitchen used = Kitchens.laid(weights);
+            for (int what = 0; what < 5; what++) {
+                used.would(15, 448, 500, what);
+                used.would(15, 8000, 500, what);
+                used.would(15, 33, 20, what);
+            }
+            for (int i = left; i < weights.length; i++) {
+                used.take(i);
+            }
+            for (int weight = 10; weight < 460; weight += 7) {
+                for (int what = 0; what < 5; what++) {
+                    SugarKitchen fresh = Kitchens.laid(Arrays.copyOf(weights, left));
+                    is("25 of " + left + " by " + weight + ", " + what,
+                            fresh.would(15, weight, 6, what), used.would(15, weight, 6, what));
+                }
+            }
+        }
     }
 
     /** "of two ways that one which has the first piece (in CHOICE) that just one of them has" */
@@ -308,7 +359,8 @@ public final class BoxEdgesTest {
         while (packed < 200 && k.pack(15, 25, 5) != NONE) {
             packed++;
         }
-        is("25 FULL is what can be packed", packed, Kitchens.laidAlike(10, 144).would(15, 25, 5, 2));
+        is("25 FULL is what can be packed", packed,
+                Kitchens.laidAlike(10, 144).would(15, 25, 5, 2));
     }
 
     /** "the most boxes into which (some of) them can be parted, each within WEIGHT and OVER" */
@@ -323,6 +375,9 @@ public final class BoxEdgesTest {
         is("25 MOST: a heavy one is left", 1, Kitchens.laid(2000, 60, 40).would(15, 100, 0, 3));
         is("25 MOST: only heavy ones", 0, Kitchens.laid(2000, 2000).would(15, 100, 500, 3));
         is("25 MOST: not as the heaviest would go", 2, Kitchens.laid(60, 50, 40, 30, 20)
+                .would(15, 100, 0, 3));
+        is("25 MOST: the heaviest is left", 1, Kitchens.laid(60, 55, 45).would(15, 100, 0, 3));
+        is("25 MOST: no piece is in two", 1, Kitchens.laid(60, 60, 40, 39, 38)
                 .would(15, 100, 0, 3));
         is("25 MOST by the least WEIGHT", 3, Kitchens.laid(10, 10, 10).would(15, 1, 9, 3));
         is("25 MOST by the greatest WEIGHT", 1, Kitchens.laid(2000, 2000, 2000, 2000, 2000)
@@ -348,8 +403,8 @@ public final class BoxEdgesTest {
 
     // ---- Promise 26
 
-    private static void boxOf() {
-        // "NONE for others."
+    /** "NONE for others." */
+    private static void boxOfOthers() {
         EDGES.none("26 no such box", Kitchens::busy, (k, v) -> k.boxOf(v, 0), -1, 1, 200);
         EDGES.none("26 what", Kitchens::busy, (k, v) -> k.boxOf(0, v), -1, 5, 6, 99, 101, 199, 201,
                 239, 240, 299, 300);
@@ -363,22 +418,28 @@ public final class BoxEdgesTest {
         for (int what : new int[] {0, 1, 2, 3, 4, 100, 200}) {
             is("26 none in a new kitchen", NONE, new SugarKitchen().boxOf(0, what));
         }
-        // "the WEIGHT it was packed by", not its weight
-        SugarKitchen over = Kitchens.laid(150);
-        over.pack(15, 1, 500);
-        is("26 its weight", 150, over.boxOf(0, 1));
-        is("26 its WEIGHT", 1, over.boxOf(0, 2));
-        // "all WARNINGS of the lots in it together": a WARNING that two lots have is one.
-        SugarKitchen two = Kitchens.kitchen();
-        two.cut(1, 100, 1);
-        two.dip(0, 2, 10);
-        two.place(0, 0, 0);
-        two.pack(15, 110, 0);
-        is("26 WARNINGS 6 and 12 together", 14, two.boxOf(0, 3));
-        is("26 two lots", 2, two.boxOf(0, 4));
-        is("26 the first lot", 1, two.boxOf(0, 200));
-        is("26 the second lot", 2, two.boxOf(0, 201));
-        is("26 no third lot", NONE, two.boxOf(0, 202));
+    }
+
+    /** "its weight, 2 the WEIGHT it was packed by" */
+    private static void boxesWeights() {
+        SugarKitchen k = Kitchens.laid(150);
+        k.pack(15, 1, 500);
+        is("26 its weight", 150, k.boxOf(0, 1));
+        is("26 its WEIGHT", 1, k.boxOf(0, 2));
+    }
+
+    /** "all WARNINGS of the lots in it together": a WARNING that two lots have is one. */
+    private static void boxesWarnings() {
+        SugarKitchen k = Kitchens.kitchen();
+        k.cut(1, 100, 1);
+        k.dip(0, 2, 10);
+        k.place(0, 0, 0);
+        k.pack(15, 110, 0);
+        is("26 WARNINGS 6 and 12 together", 14, k.boxOf(0, 3));
+        is("26 two lots", 2, k.boxOf(0, 4));
+        is("26 the first lot", 1, k.boxOf(0, 200));
+        is("26 the second lot", 2, k.boxOf(0, 201));
+        is("26 no third lot", NONE, k.boxOf(0, 202));
     }
 
     /** "its i-th piece, [..] its i-th lot (both rising)": 40 of each, the most there can be. */

@@ -7,18 +7,22 @@ public final class CookingEdgesTest {
     private static final int NO_TOP = Kitchens.NO_TOP;
     private static final int MIN = Integer.MIN_VALUE;
     private static final int MAX = Integer.MAX_VALUE;
+    /** Of the busy kitchen's batches. */
+    private static final int[] COOKED = {0, 1, 2, 3, 6, 8, 10, 11};
+    private static final int[] RAW = {4, 5, 7, 9};
+    private static final int[] NO_BATCH = {-1, 12, 40, MIN, MAX};
     private static final Due DUE = new Due("CookingEdgesTest");
     private static final Edges EDGES = new Edges(DUE);
 
     public static void main(String[] args) {
         newObject();
-        lots();
-        batches();
+        lot();
+        batch();
         put();
         row();
-        ticksAndStirs();
-        floats();
-        readings();
+        tickAndStir();
+        degrees();
+        ticks();
         table();
         lost();
         grained();
@@ -81,25 +85,37 @@ public final class CookingEdgesTest {
 
     // ---- Promises 2 and 3
 
-    private static void lots() {
-        // "A lot of so much (0 .. 1000000)"
+    private static void lot() {
+        lotsAmount();
+        lotsWarnings();
+        fortyLots();
+    }
+
+    /** "A lot of so much (0 .. 1000000)" */
+    private static void lotsAmount() {
         EDGES.range("2 amount", Kitchens::busy, 0, 1000000, (k, v) -> k.lot(v, 7));
         SugarKitchen k = new SugarKitchen();
         is("2 nothing is taken", 0, k.lot(0, 0));
         is("2 nothing is what it has", 0, k.left(0));
         is("2 a million is taken", 1, k.lot(1000000, 0));
         is("2 a million is what it has", 1000000, k.left(1));
-        // "WARNINGS (0 .. 255)"
-        EDGES.range("2 WARNINGS", Kitchens::busy, 0, 255, (q, v) -> q.lot(7, v));
+    }
+
+    /** "WARNINGS (0 .. 255)" */
+    private static void lotsWarnings() {
+        EDGES.range("2 WARNINGS", Kitchens::busy, 0, 255, (k, v) -> k.lot(7, v));
         is("2 WARNINGS 0", 0, warningsOfABoxWith(0));
         is("2 WARNINGS 255", 255, warningsOfABoxWith(255));
-        // "NONE for others, or if there are 40."
+    }
+
+    /** "LOTS 0 .. 39"; "or if there are 40" */
+    private static void fortyLots() {
         SugarKitchen full = Kitchens.fortyLots();
         is("2 40 there are", 40, full.about(0));
         is("2 the last is 39", 1000000, full.left(39));
         is("2 there is no 40", NONE, full.left(40));
-        EDGES.refused("2 the 41st", Kitchens::fortyLots, q -> q.lot(5, 5));
-        EDGES.refused("2 the 41st of nothing", Kitchens::fortyLots, q -> q.lot(0, 0));
+        EDGES.refused("2 the 41st", Kitchens::fortyLots, k -> k.lot(5, 5));
+        EDGES.refused("2 the 41st of nothing", Kitchens::fortyLots, k -> k.lot(0, 0));
         is("2 the 40th", 39, thirtyNineLots().lot(0, 0));
     }
 
@@ -121,10 +137,23 @@ public final class CookingEdgesTest {
         return k.boxOf(0, 3);
     }
 
-    private static void batches() {
-        // "NONE: no such KIND"
+    private static void batch() {
+        batchesKind();
+        fortyBatches();
+    }
+
+    /** "NONE: no such KIND" */
+    private static void batchesKind() {
         EDGES.range("3 KIND", Kitchens::busy, 0, 5, SugarKitchen::batch);
-        // "or there are 40."
+        for (int kind = 0; kind < 6; kind++) {
+            SugarKitchen k = Kitchens.busy();
+            is("3 the next number", 12, k.batch(kind));
+            is("3 its KIND", kind, k.batchOf(12, 0));
+        }
+    }
+
+    /** "BATCHES 0 .. 39"; "or there are 40" */
+    private static void fortyBatches() {
         SugarKitchen full = Kitchens.fortyBatches();
         is("3 40 there are", 40, full.about(1));
         is("3 the last is 39", 39 % 6, full.batchOf(39, 0));
@@ -143,7 +172,14 @@ public final class CookingEdgesTest {
     // ---- Promise 4
 
     private static void put() {
-        // "So much (1 .. what it has) of a lot"; lot 2 of the busy kitchen has 60 left.
+        putAmounts();
+        putIntoCooked();
+        putOfNoSuch();
+        putAllThereCanBe();
+    }
+
+    /** "So much (1 .. what it has) of a lot": the busy kitchen's lot 2 has 60, its lot 3 nothing. */
+    private static void putAmounts() {
         is("4 what it has", 60, Kitchens.busy().left(2));
         EDGES.range("4 amount", Kitchens::busy, 1, 60, (k, v) -> k.put(9, 2, v));
         SugarKitchen k = Kitchens.busy();
@@ -153,48 +189,79 @@ public final class CookingEdgesTest {
         is("4 not one more", NONE, k.put(9, 2, 1));
         EDGES.refused("4 of an empty lot", Kitchens::busy, q -> q.put(9, 3, 1));
         EDGES.refused("4 nothing of an empty lot", Kitchens::busy, q -> q.put(9, 3, 0));
-        // "into a batch that isn't cooked"
-        for (int cooked : new int[] {0, 1, 2, 3, 6, 8, 10, 11}) {
+    }
+
+    /** "goes into a batch that isn't cooked" */
+    private static void putIntoCooked() {
+        for (int cooked : COOKED) {
             EDGES.refused("4 into a cooked one, " + cooked, Kitchens::busy,
-                    q -> q.put(cooked, 0, 5));
+                    k -> k.put(cooked, 0, 5));
         }
-        // "NONE, changing nothing, for others."
-        EDGES.none("4 no such batch", Kitchens::busy, (q, v) -> q.put(v, 0, 5), -1, 12, 40);
-        EDGES.none("4 no such lot", Kitchens::busy, (q, v) -> q.put(9, v, 5), -1, 4, 40);
-        // The last lot into the last batch, and all there can be in one.
-        SugarKitchen last = Kitchens.fortyLots();
+        for (int raw : RAW) {
+            SugarKitchen k = Kitchens.busy();
+            is("4 into a raw one, " + raw, k.batchOf(raw, 1) + 5, k.put(raw, 0, 5));
+        }
+    }
+
+    /** "NONE, changing nothing, for others." */
+    private static void putOfNoSuch() {
+        EDGES.none("4 no such batch", Kitchens::busy, (k, v) -> k.put(v, 0, 5), -1, 12, 40);
+        EDGES.none("4 no such lot", Kitchens::busy, (k, v) -> k.put(9, v, 5), -1, 4, 40);
+    }
+
+    /** The last lot into the last batch, and all there can be in one. */
+    private static void putAllThereCanBe() {
+        SugarKitchen k = Kitchens.fortyLots();
         for (int i = 0; i < 40; i++) {
-            last.batch(0);
+            k.batch(0);
         }
         for (int lot = 0; lot < 40; lot++) {
-            is("4 lot " + lot + " into 39", 1000000 * (lot + 1), last.put(39, lot, 1000000));
+            is("4 lot " + lot + " into 39", 1000000 * (lot + 1), k.put(39, lot, 1000000));
         }
-        is("4 all there can be", 40000000, last.batchOf(39, 2));
-        is("4 another has none of it", 0, last.batchOf(38, 1));
+        is("4 all there can be", 40000000, k.batchOf(39, 2));
+        is("4 another has none of it", 0, k.batchOf(38, 1));
     }
 
     // ---- Promises 5 to 7
 
     private static void row() {
-        // "has so many places (0 .. 60) [..] NONE: it is MISSING: true."
+        rowsLength();
+        rowsWhich();
+        rowOfNoSuch();
+        rowOfACookedOne();
+        renewedRows();
+    }
+
+    /** "so many places (0 .. 60) [..]; NONE: it is MISSING: true"; "Both are MISSING at first" */
+    private static void rowsLength() {
         EDGES.ask("5 length", Kitchens::busy, NONE, 60, (k, v) -> k.row(4, 0, v));
         EDGES.ask("5 length of the STIRRING row", Kitchens::busy, NONE, 60,
                 (k, v) -> k.row(5, 1, v));
-        // "THERMOMETER row (which 0) or STIRRING row (1)"
-        EDGES.ask("5 which", Kitchens::busy, 0, 1, (k, v) -> k.row(5, v, 5));
         for (int which = 0; which < 2; which++) {
             rowsOfLength(which);
         }
-        // "False, changing nothing, for others, or if it is cooked."
-        for (int v : new int[] {-1, 12, 40, MIN, MAX}) {
+    }
+
+    /** "THERMOMETER row (which 0) or STIRRING row (1)" */
+    private static void rowsWhich() {
+        EDGES.ask("5 which", Kitchens::busy, 0, 1, (k, v) -> k.row(5, v, 5));
+        EDGES.ask("5 which is MISSING", Kitchens::busy, 0, 1, (k, v) -> k.row(5, v, NONE));
+    }
+
+    /** "False, changing nothing, for others" */
+    private static void rowOfNoSuch() {
+        for (int v : NO_BATCH) {
             EDGES.denied("5 no such batch " + v, Kitchens::busy, k -> k.row(v, 0, 5));
         }
-        for (int cooked : new int[] {0, 1, 2, 3, 6, 8, 10, 11}) {
+    }
+
+    /** "or if it is cooked" */
+    private static void rowOfACookedOne() {
+        for (int cooked : COOKED) {
             EDGES.denied("5 cooked " + cooked, Kitchens::busy, k -> k.row(cooked, 0, 5));
             EDGES.denied("5 cooked " + cooked, Kitchens::busy, k -> k.row(cooked, 1, 60));
             EDGES.denied("5 cooked " + cooked, Kitchens::busy, k -> k.row(cooked, 0, NONE));
         }
-        renewedRows();
     }
 
     private static boolean there(SugarKitchen k, int which, int place) {
@@ -234,30 +301,55 @@ public final class CookingEdgesTest {
         is("5 the THERMOMETER row stays", 900, k.batchOf(c, 5));
     }
 
-    private static void ticksAndStirs() {
-        // "False: no such batch, place, or it is cooked." The rows of batch 4 have 5 places.
+    private static void tickAndStir() {
+        placesOfARow();
+        tickOfNoSuch();
+        tickOfACookedOne();
+        placesOfAMissingRow();
+        anyBits();
+        theLastOfSixty();
+    }
+
+    /** "False: no such [..] place": the rows of batch 4 have 5 places. */
+    private static void placesOfARow() {
         EDGES.ask("6 place", Kitchens::busy, 0, 4, (k, v) -> k.tick(4, v, 77));
         EDGES.ask("7 place", Kitchens::busy, 0, 4, (k, v) -> k.stir(4, v, true));
-        for (int v : new int[] {-1, 12, 40, MIN, MAX}) {
+    }
+
+    /** "False: no such batch" */
+    private static void tickOfNoSuch() {
+        for (int v : NO_BATCH) {
             EDGES.denied("6 no such batch " + v, Kitchens::busy, k -> k.tick(v, 0, 77));
             EDGES.denied("7 no such batch " + v, Kitchens::busy, k -> k.stir(v, 0, true));
         }
-        for (int cooked : new int[] {0, 3, 6, 8}) {
+    }
+
+    /** "or it is cooked" */
+    private static void tickOfACookedOne() {
+        for (int cooked : COOKED) {
             EDGES.denied("6 cooked " + cooked, Kitchens::busy, k -> k.tick(cooked, 0, 77));
             EDGES.denied("7 cooked " + cooked, Kitchens::busy, k -> k.stir(cooked, 0, true));
         }
+    }
+
+    private static void placesOfAMissingRow() {
         for (int place : new int[] {NONE, 0, 1}) {
             EDGES.denied("6 MISSING, " + place, Kitchens::busy, k -> k.tick(7, place, 77));
             EDGES.denied("7 MISSING, " + place, Kitchens::busy, k -> k.stir(7, place, true));
         }
-        // Any bits are taken, and the last place of the longest row.
+    }
+
+    /** "The THERMOMETER's place gets the float with these bits" */
+    private static void anyBits() {
         for (int bits : new int[] {MIN, -1, 0, 1, MAX, 0x7f800000, 0x7f800001}) {
             SugarKitchen k = Kitchens.busy();
             k.row(9, 0, 60);
             is("6 bits " + bits, true, k.tick(9, 59, bits));
             is("6 no place 60", false, k.tick(9, 60, bits));
         }
-        // The first place of all and the last of 60 are read and stirred.
+    }
+
+    private static void theLastOfSixty() {
         SugarKitchen k = Kitchens.oneLot();
         k.grain(-10, -10);
         int b = Kitchens.raw(k, 1, 10, false, new float[60]);
@@ -267,7 +359,7 @@ public final class CookingEdgesTest {
         is("7 stirred at 59", 59, k.batchOf(b, 7));
     }
 
-    // ---- Terms I: floats and what is read
+    // ---- Terms I: degrees and ticks
 
     private static SugarKitchen cookedBits(int kind, int... bits) {
         SugarKitchen k = Kitchens.oneLot();
@@ -283,7 +375,7 @@ public final class CookingEdgesTest {
         return k;
     }
 
-    private static void floats() {
+    private static void degrees() {
         tenTimesCut();
         tooLargeForAnInt();
         noNumberIsNotRead();
@@ -347,7 +439,7 @@ public final class CookingEdgesTest {
         return k;
     }
 
-    private static void readings() {
+    private static void ticks() {
         ticksThatAreNotThere();
         topIsTheGreatestRead();
         ticksEndAheadOfIt();
@@ -404,21 +496,38 @@ public final class CookingEdgesTest {
     // ---- Promise 8
 
     private static void table() {
-        // "each with a LOSS 0 .. 900"
+        tablesLoss();
+        tablesDegrees();
+        sixteenRows();
+        lossByTheTable();
+        lossAtTheEndsOfInt();
+    }
+
+    /** "each with a LOSS 0 .. 900" */
+    private static void tablesLoss() {
         EDGES.range("8 LOSS", Kitchens::busy, 0, 900, (k, v) -> k.table(1001, v));
-        // "(above those that are there)": the busy kitchen's last row is at 1000.
+    }
+
+    /** "from a degree on (above those that are there)": the busy kitchen's last row is at 1000. */
+    private static void tablesDegrees() {
         EDGES.refused("8 the same degree", Kitchens::busy, k -> k.table(1000, 5));
         EDGES.refused("8 a degree below", Kitchens::busy, k -> k.table(999, 5));
         EDGES.refused("8 below all", Kitchens::busy, k -> k.table(-1, 5));
         EDGES.refused("8 the least int", Kitchens::busy, k -> k.table(MIN, 5));
         is("8 one above", 4, Kitchens.busy().table(1001, 5));
         is("8 the greatest int", 4, Kitchens.busy().table(MAX, 5));
-        // "NONE, changing nothing, for others, or if there are 16."
+    }
+
+    /** "up to 16 degrees"; "or if there are 16" */
+    private static void sixteenRows() {
         is("8 16 there are", 16, Kitchens.sixteenRows().about(4));
         EDGES.refused("8 the 17th", Kitchens::sixteenRows, k -> k.table(1501, 5));
         EDGES.refused("8 the 17th at the end of int", Kitchens::sixteenRows, k -> k.table(MAX, 0));
-        lossByTheTable();
-        lossAtTheEndsOfInt();
+        SugarKitchen k = new SugarKitchen();
+        for (int i = 0; i < 15; i++) {
+            k.table(i, i);
+        }
+        is("8 the 16th", 16, k.table(15, 0));
     }
 
     private static int lossAt(SugarKitchen k, float degree) {
@@ -557,15 +666,25 @@ public final class CookingEdgesTest {
     // ---- Promise 10
 
     private static void bounds() {
-        // "False: no such KIND."
+        boundsOfNoSuchKind();
+        boundsAtFirst();
+        for (int kind = 0; kind < 6; kind++) {
+            boundsOf(kind);
+        }
+    }
+
+    /** "False: no such KIND." */
+    private static void boundsOfNoSuchKind() {
         EDGES.ask("10 KIND", Kitchens::busy, 0, 5, (k, v) -> k.bounds(v, 1000, 1000));
-        // "LOSS within the two BOUNDS of its KIND (at first 0 and 900)"
+    }
+
+    /** "LOSS within the two BOUNDS of its KIND (at first 0 and 900)" */
+    private static void boundsAtFirst() {
         for (int kind = 0; kind < 6; kind++) {
             for (int loss : new int[] {0, 900}) {
-                SugarKitchen k = withLoss(kind, loss);
-                is("10 at first " + loss + " is within, KIND " + kind, 0, k.why(0));
+                is("10 at first " + loss + " is within, KIND " + kind, 0,
+                        withLoss(kind, loss).why(0));
             }
-            boundsOf(kind);
         }
     }
 
@@ -599,15 +718,34 @@ public final class CookingEdgesTest {
     // ---- Promises 11 to 13
 
     private static void cook() {
-        // "over 1 .. 60 ticks"
+        cooksTicks();
+        cookNoSuch();
+        cookTwice();
+        cookNothing();
+    }
+
+    /** "over 1 .. 60 ticks" */
+    private static void cooksTicks() {
         EDGES.range("11 ticks", Kitchens::busy, 1, 60, (k, v) -> k.cook(4, v));
-        // "no such batch"
+    }
+
+    /** "no such batch" */
+    private static void cookNoSuch() {
         EDGES.none("11 no such batch", Kitchens::busy, (k, v) -> k.cook(v, 3), -1, 12, 40);
-        // "it is cooked"
-        for (int cooked : new int[] {0, 1, 2, 3, 6, 8, 10, 11}) {
+        SugarKitchen k = Kitchens.fortyBatches();
+        k.put(39, 0, 5);
+        is("11 the last batch", 5, k.cook(39, 60));
+    }
+
+    /** "it is cooked" */
+    private static void cookTwice() {
+        for (int cooked : COOKED) {
             EDGES.refused("11 cooked " + cooked, Kitchens::busy, k -> k.cook(cooked, 3));
         }
-        // "or has no MASS"
+    }
+
+    /** "or has no MASS" */
+    private static void cookNothing() {
         EDGES.refused("11 no MASS", Kitchens::busy, k -> k.cook(7, 3));
         EDGES.refused("11 no MASS, but rows", () -> {
             SugarKitchen k = Kitchens.busy();
@@ -619,39 +757,50 @@ public final class CookingEdgesTest {
         k.batch(0);
         k.put(0, 0, 1);
         is("11 the least MASS", 1, k.cook(0, 1));
-        k = Kitchens.fortyBatches();
-        k.put(39, 0, 5);
-        is("11 the last batch", 5, k.cook(39, 60));
     }
 
     private static void vouch() {
-        // "A hand vouches for a cooked batch: true. False for others."
-        for (int v : new int[] {-1, 12, 40, MIN, MAX}) {
-            EDGES.denied("12 no such batch " + v, Kitchens::busy, k -> k.vouch(v));
-        }
-        for (int raw : new int[] {4, 5, 7, 9}) {
-            EDGES.denied("12 not cooked " + raw, Kitchens::busy, k -> k.vouch(raw));
-        }
+        vouchForCooked();
+        vouchForOthers();
+    }
+
+    /** "A hand vouches for a cooked batch: true." */
+    private static void vouchForCooked() {
         SugarKitchen k = Kitchens.busy();
-        for (int cooked : new int[] {0, 1, 2, 3, 6, 8, 10, 11}) {
+        for (int cooked : COOKED) {
             is("12 cooked " + cooked, true, k.vouch(cooked));
             is("12 GOOD " + cooked, 0, k.why(cooked));
             is("12 vouched for " + cooked, 1, k.batchOf(cooked, 8));
         }
+    }
+
+    /** "False for others." */
+    private static void vouchForOthers() {
+        for (int v : NO_BATCH) {
+            EDGES.denied("12 no such batch " + v, Kitchens::busy, k -> k.vouch(v));
+        }
+        for (int raw : RAW) {
+            EDGES.denied("12 not cooked " + raw, Kitchens::busy, k -> k.vouch(raw));
+        }
+        SugarKitchen k = Kitchens.busy();
         k.vouch(4);
         k.cook(4, 60);
         is("12 an earlier no is no yes for later", 2, k.why(4));
     }
 
     private static void why() {
-        // "NONE: no such batch."
-        EDGES.none("13 no such batch", Kitchens::busy, SugarKitchen::why, -1, 12, 40);
-        // "the first of these": each reason with all the later ones there as well.
+        whyOfNoSuch();
         for (int kind = 0; kind < 6; kind++) {
             whyOf(kind);
         }
     }
 
+    /** "NONE: no such batch." */
+    private static void whyOfNoSuch() {
+        EDGES.none("13 no such batch", Kitchens::busy, SugarKitchen::why, -1, 12, 40);
+    }
+
+    /** "the first of these": each reason with all the later ones there as well. */
     private static void whyOf(int kind) {
         boolean must = kind == 1 || kind == 3 || kind == 4;
         boolean mustNot = kind == 2;
@@ -681,13 +830,23 @@ public final class CookingEdgesTest {
     // ---- Promise 14
 
     private static void batchOf() {
-        // "NONE for others."
+        batchOfOthers();
+        batchOfARawOne();
+        firstTickOrMissing();
+        whatWasPutStays();
+    }
+
+    /** "NONE for others." */
+    private static void batchOfOthers() {
         EDGES.none("14 no such batch", Kitchens::busy, (k, v) -> k.batchOf(v, 0), -1, 12, 40);
         EDGES.none("14 what", Kitchens::busy, (k, v) -> k.batchOf(0, v), -1, 13, 14);
-        // "(3 to 7 of one that isn't cooked: 0, 0, -1000001, 0, NONE.)"
+    }
+
+    /** "(3 to 7 of one that isn't cooked: 0, 0, -1000001, 0, NONE.)" */
+    private static void batchOfARawOne() {
         SugarKitchen k = Kitchens.busy();
         int[] want = {0, 0, -1000001, 0, NONE};
-        for (int raw : new int[] {4, 5, 7, 9}) {
+        for (int raw : RAW) {
             for (int what = 3; what <= 7; what++) {
                 is("14 raw " + raw + ", " + what, want[what - 3], k.batchOf(raw, what));
             }
@@ -695,8 +854,11 @@ public final class CookingEdgesTest {
                 is("14 raw " + raw + ", " + what, 0, k.batchOf(raw, what));
             }
         }
-        // "the first tick at which it was GRAINED, or, of a DOUBTFUL one, which was not there"
-        k = Kitchens.oneLot();
+    }
+
+    /** "the first tick at which it was GRAINED, or, of a DOUBTFUL one, which was not there" */
+    private static void firstTickOrMissing() {
+        SugarKitchen k = Kitchens.oneLot();
         k.grain(MIN, MAX);
         int b = Kitchens.raw(k, 2, 10, true, 90f, 80f, 70f);
         k.cook(b, 4);
@@ -707,17 +869,20 @@ public final class CookingEdgesTest {
         k.vouch(b);
         is("14 vouched for: it was not there still", 3, k.batchOf(b, 7));
         is("14 vouched for: GRAINED still", 1, k.batchOf(b, 6));
-        // "what was put into it" stays whole when all of it is lost or cut.
-        SugarKitchen all = Kitchens.oneLot();
-        all.table(0, 900);
-        all.row(all.batch(3), 0, 1);
-        all.put(0, 0, 100);
-        is("14 a tenth is left", 10, all.cook(0, 1));
-        all.vouch(0);
-        is("14 all is cut", 1, all.cut(0, 10, 1));
+    }
+
+    /** "what was put into it" stays whole when all of it is lost or cut. */
+    private static void whatWasPutStays() {
+        SugarKitchen k = Kitchens.oneLot();
+        k.table(0, 900);
+        k.row(k.batch(3), 0, 1);
+        k.put(0, 0, 100);
+        is("14 a tenth is left", 10, k.cook(0, 1));
+        k.vouch(0);
+        is("14 all is cut", 1, k.cut(0, 10, 1));
         int[] done = {3, 0, 100, 90, 900, 0, 0, NONE, 1, 0, 0, 10, 0};
         for (int what = 0; what < 13; what++) {
-            is("14 all gone, " + what, done[what], all.batchOf(0, what));
+            is("14 all gone, " + what, done[what], k.batchOf(0, what));
         }
     }
 }

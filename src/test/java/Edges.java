@@ -1,4 +1,3 @@
-import java.util.List;
 import java.util.function.Supplier;
 
 /** Asks at the edges: what is taken, what is refused, and that a refused call changes nothing. */
@@ -41,17 +40,28 @@ final class Edges {
     }
 
     private void refused(String what, Supplier<SugarKitchen> from, int want, Call call) {
-        SugarKitchen asked = from.get();
-        SugarKitchen other = from.get();
-        due.is(what, want, call.on(asked));
-        same(what + " changes nothing", Look.at(asked), Look.at(other));
-        same(what + " changes nothing for later", Look.further(asked), Look.further(other));
+        due.is(what, want, call.on(from.get()));
+        String difference = change(from, call);
+        due.is(what + " changes nothing" + (difference.isEmpty() ? "" : " (" + difference + ")"),
+                true, difference.isEmpty());
     }
 
-    private void same(String what, List<String> one, List<String> other) {
-        String difference = Look.difference(one, other);
-        due.is(what + (difference.isEmpty() ? "" : " (" + difference + ")"), true,
-                difference.isEmpty());
+    /** What is other in a kitchen that had the call than in one that had not, or "". */
+    static String change(Supplier<SugarKitchen> from, Call call) {
+        for (int ticks : new int[] {3, 60}) {
+            SugarKitchen asked = from.get();
+            SugarKitchen other = from.get();
+            call.on(asked);
+            String now = Look.difference(Look.at(asked), Look.at(other));
+            if (!now.isEmpty()) {
+                return now;
+            }
+            String later = Look.difference(Look.further(asked, ticks), Look.further(other, ticks));
+            if (!later.isEmpty()) {
+                return later;
+            }
+        }
+        return "";
     }
 
     /** Values from low to high are taken, those beside and the ends of int are refused by NONE. */

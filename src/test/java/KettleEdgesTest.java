@@ -262,8 +262,13 @@ public final class KettleEdgesTest {
         order("one more", k, true, 0, 0, 2, 1);
         is("28 refused", NONE, k.queue(2));
         order("a refused one", k, true, 0, 0, 2, 1);
+        order("one more", k, false, 0, 0, 2, 1);
+        k.wash(0, 5, 7);
+        k.wash(5, 0, 7);
+        order("dearer, nuts last", k, true, 7, 0, 2, 1);
         k.queue(NONE);
         order("emptied", k, true, 0);
+        order("emptied", k, false, 0);
     }
 
     // ---- Promise 30
@@ -271,7 +276,7 @@ public final class KettleEdgesTest {
     /** "NONE if there is none such." */
     private static void recallNumbers() {
         EDGES.none("30 no such lot", Kitchens::busy, (k, v) -> k.recall(v, 0, 0), -1, 3, 4, 40, 64);
-        EDGES.none("30 what", Kitchens::busy, (k, v) -> k.recall(0, v, 0), -1, 3);
+        EDGES.none("30 what", Kitchens::busy, (k, v) -> k.recall(1, v, 0), -1, 3);
         for (int what = 0; what < 3; what++) {
             int of = what;
             int many = new int[] {2, 6, 1}[what];

@@ -22,12 +22,12 @@ final class Look {
         return look.seen;
     }
 
-    /** Goes on with the kitchen: rows, TABLE, GRAIN, TEMPER and WASHING show in what comes of them. */
-    static List<String> further(SugarKitchen k) {
+    /** Goes on with it: rows, TABLE, GRAIN, TEMPER and WASHING show in what comes of them. */
+    static List<String> further(SugarKitchen k, int ticks) {
         Look look = new Look(k);
         look.makeMore();
         look.heatAll();
-        look.cookAll();
+        look.cookAll(ticks);
         look.stock();
         look.orders();
         look.packAll();
@@ -139,17 +139,17 @@ final class Look {
         }
     }
 
-    private void cookAll() {
+    /** Over few ticks it shows where each was GRAINED, over 60 how long its rows are. */
+    private void cookAll(int ticks) {
         for (int batch = 0; batch < k.about(1); batch++) {
             note("put " + batch, k.put(batch, 0, 7));
-            note("tick " + batch + " 0", k.tick(batch, 0, Kitchens.bits(1f)) ? 1 : 0);
-            note("cook " + batch, k.cook(batch, 60));
+            note("cook " + batch, k.cook(batch, ticks));
         }
     }
 
     private void orders() {
-        for (int one = 0; one < Math.min(12, k.about(1)); one++) {
-            for (int other = 0; other < Math.min(12, k.about(1)); other++) {
+        for (int one = 0; one < Math.min(18, k.about(1)); one++) {
+            for (int other = 0; other < Math.min(18, k.about(1)); other++) {
                 k.queue(NONE);
                 note("queue " + one, k.queue(one));
                 note("queue " + other, k.queue(other));

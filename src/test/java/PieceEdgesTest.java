@@ -26,6 +26,7 @@ public final class PieceEdgesTest {
         take();
         allow();
         sortsAndFit();
+        pieceOfOthers();
         pieceOf();
         at();
         DUE.end();
@@ -346,7 +347,7 @@ public final class PieceEdgesTest {
 
     // ---- Promises 22 and 23
 
-    /** "0 of a CENTRE, 1 of a NUT, 2 more if it is dipped"; "FIT: on a TRAY, dipped in TEMPER or .." */
+    /** "0 of a CENTRE, 1 of a NUT, 2 more if it is dipped"; "FIT: on a TRAY, .." */
     private static void sortsAndFit() {
         int[][] pieces = {{0, 0, 1}, {1, 2, 1}, {2, 2, 0}, {3, 0, 0}, {4, 2, 0}, {6, 3, 1},
             {7, 1, 0}, {8, 1, 0}};
@@ -360,11 +361,17 @@ public final class PieceEdgesTest {
         is("22 SORT of a dipped NUT", 3, k.pieceOf(8, 7));
     }
 
-    private static void pieceOf() {
-        // "NONE for others."
+    /** "NONE for others." */
+    private static void pieceOfOthers() {
         EDGES.none("22 no such piece", Kitchens::busy, (k, v) -> k.pieceOf(v, 0), -1, 10, 600);
         EDGES.none("22 what", Kitchens::busy, (k, v) -> k.pieceOf(0, v), -1, 9, 10);
-        // "its COAT (NONE)", "(1, 0; NONE undipped)", "24 * TRAY + place, or the box (NONE loose)"
+        for (int what = 0; what < 9; what++) {
+            is("22 none in a new kitchen", NONE, new SugarKitchen().pieceOf(0, what));
+        }
+    }
+
+    /** "its COAT (NONE)", "(1, 0; NONE undipped)", "24 * TRAY + place, or the box (NONE loose)" */
+    private static void pieceOf() {
         int[][] want = {{0, 0, 100, NONE, NONE, 0, 1, 0, 0, 1}, {1, 0, 120, 2, 1, 0, 1, 1, 2, 1},
             {2, 0, 130, 3, 0, 0, 1, 2, 2, 0}, {3, 0, 100, NONE, NONE, 0, 0, NONE, 0, 0},
             {4, 0, 105, 2, 1, 0, 0, NONE, 2, 0}, {6, 1, 290, 3, 0, 1, 1, 143, 3, 1},
@@ -374,9 +381,6 @@ public final class PieceEdgesTest {
             for (int what = 0; what < 9; what++) {
                 is("22 " + row[0] + ", " + what, row[what + 1], k.pieceOf(row[0], what));
             }
-        }
-        for (int what = 0; what < 9; what++) {
-            is("22 none in a new kitchen", NONE, new SugarKitchen().pieceOf(0, what));
         }
         SugarKitchen last = Kitchens.twoHundredBoxes();
         is("22 in the last box", 2, last.pieceOf(199, 5));

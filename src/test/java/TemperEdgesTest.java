@@ -76,7 +76,8 @@ public final class TemperEdgesTest {
     }
 
     private static void temperAtTheEndsOfInt() {
-        is("15 as wide as may be", true, Kitchens.busy().temper(MAX, MIN, MIN + 1, MAX - 1, MIN, 1));
+        is("15 as wide as may be", true,
+                Kitchens.busy().temper(MAX, MIN, MIN + 1, MAX - 1, MIN, 1));
         is("15 at the lower end", true,
                 Kitchens.busy().temper(MIN + 2, MIN, MIN + 1, MIN + 1, MIN, 1));
         is("15 at the upper end", true,
@@ -193,7 +194,7 @@ public final class TemperEdgesTest {
         tick("N of 1: just above D4", coat(2, one), 31, 0, 0);
     }
 
-    /** "PHASE 3: [..] a degree above D4 or below D5 sets PHASE 0 with 0, and the tick counts there." */
+    /** "a degree above D4 or below D5 sets PHASE 0 with 0, and the tick counts there" */
     private static void tooHotOrTooColdInTemper() {
         int[] two = {40, 10, 20, 30, 15, 2};
         tick("at D4", coat(3, two), 30, 3, 0);
