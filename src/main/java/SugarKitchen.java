@@ -29,6 +29,8 @@ public final class SugarKitchen {
     private static final int GREATEST_LOSS = 900;
     private static final int GREATEST_WEIGHT = 8000;
     private static final int GREATEST_OVER = 500;
+    private static final int GREATEST_INT = 0x7fffffff;
+    private static final int LEAST_INT = -GREATEST_INT - 1;
     private static final int NO_TOP = NONE - 1000000;
     private static final int IN_TEMPER = 3;
 
@@ -647,7 +649,7 @@ public final class SugarKitchen {
                 return 0;
             }
             if (power > 7) {
-                return bits < 0 ? Integer.MIN_VALUE : Integer.MAX_VALUE;
+                return bits < 0 ? LEAST_INT : GREATEST_INT;
             }
             float size = power >= 0
                     ? (float) (digits << power)
@@ -1266,7 +1268,7 @@ public final class SugarKitchen {
         private void findLeastOf(int state, boolean nutsLast) {
             int start = state * KINDS;
             for (int before = 0; before < KINDS; before++) {
-                least[start + before] = Integer.MAX_VALUE;
+                least[start + before] = GREATEST_INT;
             }
             for (int kind = 0; kind < KINDS; kind++) {
                 if (mayCome(kind, nutsLast)) {
@@ -1323,7 +1325,7 @@ public final class SugarKitchen {
         /** Of those with like minutes the first in the QUEUE; some batch may always come. */
         private int findNext(int state, int before, boolean nutsLast) {
             int next = 0;
-            int best = Integer.MAX_VALUE;
+            int best = GREATEST_INT;
             for (int i = 0; i < many; i++) {
                 if (!used[i] && mayCome(kinds[i], nutsLast)) {
                     int minutes = leastOnce(state, kinds[i]);

@@ -13,12 +13,23 @@ import java.util.regex.Pattern;
 /** Those rules of LANGUAGE.md that can be seen by a look at the face and at the text. */
 public final class LanguageTest {
     private static final Path SOURCE = Path.of("src/main/java/SugarKitchen.java");
-    private static final String FACE = "about allow at batch batchOf bounds boxOf cook cut dip grain"
-            + " heat left lot order pack pieceOf place put queue recall row stir table take temper"
-            + " tick vouch wash why would";
+    /** The methods of the document's section 'The public face', with their types. */
+    private static final Set<String> FACE = Set.of(
+        "boolean allow(int)", "boolean bounds(int,int,int)", "boolean grain(int,int)",
+        "boolean place(int,int,int)", "boolean row(int,int,int)",
+        "boolean stir(int,int,boolean)", "boolean take(int)",
+        "boolean temper(int,int,int,int,int,int)", "boolean tick(int,int,int)",
+        "boolean vouch(int)", "boolean wash(int,int,int)", "int about(int)", "int at(int,int)",
+        "int batch(int)", "int batchOf(int,int)", "int boxOf(int,int)", "int cook(int,int)",
+        "int cut(int,int,int)", "int dip(int,int,int)", "int heat(int,int)", "int left(int)",
+        "int lot(int,int)", "int order(boolean,int)", "int pack(int,int,int)",
+        "int pieceOf(int,int)", "int put(int,int,int)", "int queue(int)",
+        "int recall(int,int,int)", "int table(int,int)", "int why(int)",
+        "int would(int,int,int,int)");
     private static final String[] REFUSED = {"->", "::", "\\btry\\b", "\\bcatch\\b", "\\bthrow\\b",
         "\\bfinally\\b", "\\bsynchronized\\b", "\\bassert\\b", "\\bpackage\\b", "\\bFloat\\b",
-        "\\bDouble\\b", "\\w+Exact\\b", "static\\s*\\{", "\\bSystem\\.(?!arraycopy)", "\\bvar\\b",
+        "\\bDouble\\b", "\\b(Integer|Long)\\.[A-Z]", "\\w+Exact\\b", "static\\s*\\{",
+        "\\bSystem\\.(?!arraycopy)", "\\bvar\\b",
         "import(?! java\\.util\\.(Arrays|ArrayList|List|Iterator);)", "[^\\x00-\\x7f]"};
 
     public static void main(String[] args) throws IOException {
@@ -38,14 +49,13 @@ public final class LanguageTest {
         Set<String> seen = new TreeSet<>();
         for (Method m : SugarKitchen.class.getDeclaredMethods()) {
             if (Modifier.isPublic(m.getModifiers())) {
-                seen.add(m.getName());
+                seen.add(m.toString().replaceAll("public |SugarKitchen\\.", ""));
             } else {
                 due.is(m + " is private", true, Modifier.isPrivate(m.getModifiers()));
-                due.is(m + " has a name of its own", false,
-                        (" " + FACE + " ").contains(" " + m.getName() + " "));
+                due.is(m + " has a name of its own", false, isOfTheFace(m.getName()));
             }
         }
-        due.is("the face is " + String.join(" ", seen), true, FACE.equals(String.join(" ", seen)));
+        due.is("the face is " + seen, true, FACE.equals(seen));
         for (Field f : SugarKitchen.class.getDeclaredFields()) {
             due.is(f + " is private", !f.getName().equals("NONE"),
                     Modifier.isPrivate(f.getModifiers()));
@@ -55,6 +65,15 @@ public final class LanguageTest {
         due.is("constructors", 1, made.length);
         due.is("the constructor is public", true, Modifier.isPublic(made[0].getModifiers()));
         due.is("final", true, Modifier.isFinal(SugarKitchen.class.getModifiers()));
+    }
+
+    private static boolean isOfTheFace(String name) {
+        for (String method : FACE) {
+            if (method.contains(" " + name + "(")) {
+                return true;
+            }
+        }
+        return false;
     }
 
     private static void statics(Due due, Field f) {
@@ -77,8 +96,7 @@ public final class LanguageTest {
             }
             due.is(c + " has at most twenty fields", true, fields <= 20);
             for (Method m : c.getDeclaredMethods()) {
-                due.is(m + " has a name of its own", false,
-                        (" " + FACE + " ").contains(" " + m.getName() + " "));
+                due.is(m + " has a name of its own", false, isOfTheFace(m.getName()));
                 due.is(m + " takes at most seven", true, m.getParameterCount() <= 7);
             }
         }
